@@ -21,8 +21,12 @@ public final class RowProver {
     private static final int ROWS = 3;
     private static final int INPUTS = 3;
     private static final int BYTES_FED = 20;
-    /** A statement makes at most eight JOINED or ROUND versions and four of its sides. */
-    private static final int MOST_VERSIONS = VARIABLES + MOST_STATEMENTS * (VARIABLES + 4);
+    /**
+     * With k ifs and whiles and m other statements, 40 in all: 8 at the beginning,
+     * 4k of sides, 2m of checks and values, and JOINED or ROUND ones, which are
+     * 8k at most and 5m at most. That is greatest with k 16 and m 24.
+     */
+    private static final int MOST_VERSIONS = 240;
     /** Far above what any sweep over the bounds can need. */
     private static final int MOST_PASSES = 1000000;
 
@@ -560,9 +564,9 @@ public final class RowProver {
         void split(int howMany) {
             size = Math.min(howMany, text.length);
             tokens = 0;
-            int at = 0;
-            while (at < size) {
-                int next = at + 1;
+            int next = 0;
+            for (int at = 0; at < size; at = Math.max(at + 1, next)) {
+                next = at + 1;
                 if (isLetter(at)) {
                     next = word(at);
                 } else if (isDigit(at)) {
@@ -573,7 +577,6 @@ public final class RowProver {
                 } else if (text[at] != 9 && text[at] != 10 && text[at] != 32) {
                     put(text[at], at, 0);
                 }
-                at = next;
             }
             put(NONE, size, 0);
         }
@@ -729,11 +732,15 @@ public final class RowProver {
         /** Statements up to a closing brace or the end; depth counts the open blocks. */
         private boolean statements(int depth) {
             boolean right = true;
-            while (right && tokens.kind[at] != NONE && tokens.kind[at] != '}') {
+            for (int told = 0; right && told <= MOST_STATEMENTS; told++) {
+                int next = tokens.kind[at];
+                if (next == NONE || next == '}') {
+                    return true;
+                }
                 if (code.statements >= MOST_STATEMENTS) {
                     return false;
                 }
-                switch (tokens.kind[at]) {
+                switch (next) {
                     case TOKEN_OUT:
                         right = puttingOut();
                         break;
@@ -926,8 +933,8 @@ public final class RowProver {
         final int[][] termShift = new int[2][MOST_VERSIONS];
 
         int add(int ofVariable, int how, int statement) {
-            int v = size;
-            size++;
+            int v = Math.min(size, MOST_VERSIONS - 1);
+            size = v + 1;
             variable[v] = ofVariable;
             made[v] = how;
             madeAt[v] = statement;
@@ -1007,8 +1014,7 @@ public final class RowProver {
             if (depth > MOST_BLOCKS) {
                 return;
             }
-            int s = first;
-            while (s < end) {
+            for (int s = first; s < end; s = Math.max(s + 1, code.after[s])) {
                 if (code.checkOf[s] != NONE) {
                     makeChecked(s, code.checkOf[s]);
                 }
@@ -1019,7 +1025,6 @@ public final class RowProver {
                 } else if (code.kind[s] == REPEAT) {
                     walkRepetition(s, depth);
                 }
-                s = code.after[s];
             }
         }
 
@@ -1255,7 +1260,11 @@ public final class RowProver {
         private final Makings makings;
         private final Bounds bounds;
         private Code code;
-        private final boolean[] seen = new boolean[MOST_VERSIONS];
+        /** The latest chain that came by each version. */
+        private final int[] seenIn = new int[MOST_VERSIONS];
+        private int chains;
+        /** What hangs on each check; NONE till it is asked for. */
+        private final int[] lost = new int[MOST_STATEMENTS];
         /** 1 where the part (UP above, DOWN below) is shown. */
         final int[][] shown = new int[2][MOST_STATEMENTS];
         int partsShown;
@@ -1271,6 +1280,7 @@ public final class RowProver {
             code = ofCode;
             partsShown = 0;
             wholeShown = 0;
+            Arrays.fill(lost, NONE);
             for (int c = 0; c < code.checks; c++) {
                 shown[UP][c] = holds(bounds.settled, c, UP) ? 1 : 0;
                 shown[DOWN][c] = holds(bounds.settled, c, DOWN) ? 1 : 0;
@@ -1286,31 +1296,41 @@ public final class RowProver {
 
         /** How many parts are shown that would not be without what the check tells. */
         int lostWithout(int check) {
-            bounds.solveAll(code, bounds.trial, makings.behind[check]);
-            int lost = 0;
+            if (lost[check] == NONE) {
+                bounds.solveAll(code, bounds.trial, makings.behind[check]);
+                lost[check] = countLost();
+            }
+            return lost[check];
+        }
+
+        private int countLost() {
+            int howMany = 0;
             for (int c = 0; c < code.checks; c++) {
                 for (int part = UP; part <= DOWN; part++) {
                     if (shown[part][c] == 1 && !holds(bounds.trial, c, part)) {
-                        lost++;
+                        howMany++;
                     }
                 }
             }
-            return lost;
+            return howMany;
         }
 
         /** The k-th of the chain of a part that is shown. */
         int link(int check, boolean above, int k) {
+            if (k < 0 || k > MOST_VERSIONS) {
+                return NONE;
+            }
             int bound = above ? code.checkRow[check] : BELOW;
-            Arrays.fill(seen, 0, versions.size, false);
+            chains++;
             int v = makings.looksAt[check];
             for (int i = 0; i < k; i++) {
                 if (v < 0 || v >= versions.size) {
                     return NONE;
                 }
-                seen[v] = true;
+                seenIn[v] = chains;
                 v = next(bound, v);
             }
-            return k < 0 ? NONE : v;
+            return v;
         }
 
         /** What a version's number comes from: a version, or how the chain ends. */
@@ -1328,7 +1348,7 @@ public final class RowProver {
                 }
                 source = versions.termNumber[direction][v];
             }
-            return seen[source] ? FROM_ITSELF : source;
+            return seenIn[source] == chains ? FROM_ITSELF : source;
         }
     }
 
@@ -1412,8 +1432,8 @@ public final class RowProver {
         private final int[] inputs;
         private final int[] lengths;
         private final int[] values = new int[VARIABLES];
-        /** Loops that go unasked, as all that is asked ahead of them held. */
-        private final boolean[] free = new boolean[MOST_STATEMENTS];
+        /** 1 where a loop goes unasked, as all that was asked ahead of it held. */
+        private final int[] free = new int[MOST_STATEMENTS];
         private Code code;
         private int how;
         final int[] lastOf = new int[MOST_VERSIONS];
@@ -1435,7 +1455,7 @@ public final class RowProver {
             code = ofCode;
             how = inWhichWay;
             Arrays.fill(values, 0);
-            Arrays.fill(free, false);
+            Arrays.fill(free, 0);
             Arrays.fill(lastOf, 0, versions.size, 0);
             Arrays.fill(results, 0);
             results[ENDED] = ENDED_WELL;
@@ -1455,8 +1475,7 @@ public final class RowProver {
                 return false;
             }
             boolean goesOn = true;
-            int s = first;
-            while (goesOn && s < end) {
+            for (int s = first; goesOn && s < end; s = Math.max(s + 1, code.after[s])) {
                 if (code.kind[s] == REPEAT) {
                     goesOn = goRound(s, depth);
                 } else if (!step() || !passes(s)) {
@@ -1466,7 +1485,6 @@ public final class RowProver {
                 } else {
                     doSimple(s);
                 }
-                s = code.after[s];
             }
             return goesOn;
         }
@@ -1497,12 +1515,12 @@ public final class RowProver {
             int loop = code.loopOf[s];
             make(makings.merged[s], makings.merges[s]);
             if (how == ASKING_AHEAD && guards.checksGuarded[loop] > 0 && holdsAhead(loop)) {
-                free[loop] = true;
+                free[loop] = 1;
                 results[UNASKED]++;
             }
             for (int round = 0; round <= MOST_STEPS && step(); round++) {
                 if (!answer(s)) {
-                    free[loop] = false;
+                    free[loop] = 0;
                     return true;
                 }
                 if (!go(s + 1, code.after[s], depth + 1)) {
@@ -1591,7 +1609,7 @@ public final class RowProver {
         /** Above is asked only if below, where that is asked, holds. */
         private void countAsked(int c, int x) {
             int loop = guards.guard[c];
-            if (loop != NONE && free[loop]) {
+            if (loop != NONE && free[loop] == 1) {
                 return;
             }
             if (how == ASKING_ALL || proof.shown[DOWN][c] == 0) {

@@ -150,6 +150,11 @@ public final class RunTest {
         // the check behind the inner loop looks at a, which no loop guards
         runs(p, 0, 0, NONE, 1 + 3 * (3 + 6 + 3), 0, 18, 0, 0);
         runs(p, 2, 0, NONE, 37, 0, 12, 3, 6);
+        // it goes unasked twice, but not when it is come to with 2
+        RowProver q = Bench.told("array A 2; array B 3; while b < 3 { a = B[b]; c = 0; while c < 1 { d = A[a]; c = c + 1; } b = b + 1; }");
+        runs(q, 0, 1, 4, 21, 0, 12, 0, 0);
+        runs(q, 1, 1, 4, 21, 0, 6, 0, 0);
+        runs(q, 2, 1, 4, 21, 0, 8, 2, 6);
     }
 
     /** What is asked ahead fails although the loop would not: it runs as it was. */

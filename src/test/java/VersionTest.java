@@ -133,12 +133,22 @@ public final class VersionTest {
         Bench.same("versions", p.count(1), 26);
     }
 
-    /** Ten times all eight variables are told anew, at the deepest in five blocks. */
+    /** All eight variables are told anew in five blocks, as often as 40 statements let them. */
     private static void most() {
         String all = "a=1;b=1;c=1;d=1;e=1;f=1;g=1;h=1;";
         RowProver p = Bench.told("while a<b{while c<d{while e<f{while g<h{if a<h{" + all + "}else{}}}}}");
         Bench.same("versions", p.count(1), 8 + 4 * (8 + 4) + 4 + 8 + 8);
         Bench.same("the last is of h", p.version(p.count(1) - 1, 0), 1);
+        StringBuilder checked = new StringBuilder();
+        for (char x = 'a'; x <= 'h'; x++) {
+            checked.append(x).append("=A[").append(x).append("];");
+        }
+        String nest = "if a<b{".repeat(5) + checked + "}".repeat(5);
+        RowProver r = Bench.told("array A 1;" + nest.repeat(3) + "if a<b{}");
+        Bench.same("the most versions", r.count(1), 240);
+        Bench.same("the last of them", r.version(239, 1), 4);
+        Bench.same("its run", r.run(2, 0), 0);
+        Bench.same("the first chain ends", r.chain(0, true, 6), 1001);
         RowProver q = Bench.told("if a<b{}".repeat(40));
         Bench.same("versions of many tests", q.count(1), 8 + 40 * 4);
     }
