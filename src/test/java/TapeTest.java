@@ -9,6 +9,7 @@ public final class TapeTest {
         end();
         read();
         fault();
+        readmeExample();
         Bench.finish("TapeTest");
     }
 
@@ -107,5 +108,19 @@ public final class TapeTest {
         Bench.same("the fault stays", p.fault(), 4);
         Bench.same("the next read", p.read(), 0);
         Bench.same("no fault then", p.fault(), RowProver.NONE);
+    }
+
+    /** What README.md tells. */
+    private static void readmeExample() {
+        RowProver p = new RowProver();
+        p.feed(0x61727261, 0x79204120, 0x313b613d, 0x23413b77, 0x68696c65);
+        p.feed(0x20623c61, 0x7b633d41, 0x5b625d3b, 0x623d622b, 0x313b7d20);
+        p.end(39);
+        Bench.same("read", p.read(), 4);
+        Bench.same("below is shown", p.check(0, 3), 1);
+        Bench.same("above is shown", p.check(0, 4), 1);
+        p.length(0, 5);
+        Bench.same("all parts asked", p.run(0, 4), 10);
+        Bench.same("parts asked that are not shown", p.run(1, 4), 0);
     }
 }
