@@ -387,8 +387,7 @@ public final class RowProver {
     }
 
     private void analyse() {
-        numbering.begin(code);
-        numbering.walk(0, code.statements, 0);
+        numbering.perform(code);
         bounds.solveAll(code, bounds.settled, NONE);
         proof.perform(code);
         guards.perform(code);
@@ -1001,16 +1000,17 @@ public final class RowProver {
             this.makings = makings;
         }
 
-        void begin(Code ofCode) {
+        void perform(Code ofCode) {
             code = ofCode;
             versions.size = 0;
             for (int x = 0; x < VARIABLES; x++) {
                 current[x] = versions.add(x, BEGINNING, NONE);
                 versions.tellBoth(current[x], NUMBER, 0);
             }
+            walk(0, code.statements, 0);
         }
 
-        void walk(int first, int end, int depth) {
+        private void walk(int first, int end, int depth) {
             if (depth > MOST_BLOCKS) {
                 return;
             }

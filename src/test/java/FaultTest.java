@@ -13,26 +13,11 @@ public final class FaultTest {
     }
 
     private static void wrong(String marked) {
-        int due = marked.indexOf('|');
-        String text = marked.substring(0, due) + marked.substring(due + 1);
-        RowProver p = Bench.told("out a;");
-        Bench.tape(p, text);
-        Bench.fails("read of " + text, IllegalArgumentException.class, p::read);
-        Bench.same("fault of " + text, p.fault(), due);
-        Bench.same("statements behind " + text, p.count(0), 1);
+        Bench.wrong(marked);
     }
 
     private static void right(String text, int statements) {
-        RowProver p = new RowProver();
-        Bench.tape(p, text);
-        int got = -2;
-        try {
-            got = p.read();
-        } catch (IllegalArgumentException e) {
-            System.out.println("wrong at " + p.fault());
-        }
-        Bench.same("statements of " + text, got, statements);
-        Bench.same("fault of " + text, p.fault(), RowProver.NONE);
+        Bench.right(text, statements);
     }
 
     private static void words() {
