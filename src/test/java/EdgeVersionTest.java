@@ -15,6 +15,7 @@ public final class EdgeVersionTest {
         noOtherBlock();
         toldAnewInOneOfBoth();
         othersWithin();
+        withinFiveBlocks();
         goingRound();
         behindIf();
         behindWhile();
@@ -188,7 +189,7 @@ public final class EdgeVersionTest {
         version(first, 19, 2, 5, 0, 14, 2);
         version(first, 20, 3, 5, 0, 15, 3);
         version(first, 23, 6, 1, 8, 0, NONE);
-        RowProver loops = Bench.told("while a<1{while b<2{c=a;d=b;}e=b;f=a;}g=b;h=a;");
+        RowProver loops = Bench.told("while a<1{while b<2{c=a;d=b;}e=b;f=a;}g=b;h=a;g=c;h=d;");
         // rounds c 8, d 9, e 10, f 11; a 12; rounds c 13, d 14; b 15, c 16, d 17; b 18; e 19, f 20; a 21; g 22, h 23
         version(loops, 8, 2, 6, 0, 2, 13);
         version(loops, 9, 3, 6, 0, 3, 14);
@@ -201,6 +202,34 @@ public final class EdgeVersionTest {
         version(loops, 21, 0, 4, 0, 0, NONE);
         version(loops, 22, 6, 1, 6, 1, NONE);
         version(loops, 23, 7, 1, 7, 21, NONE);
+        version(loops, 24, 6, 1, 8, 8, NONE);
+        version(loops, 25, 7, 1, 9, 9, NONE);
+    }
+
+    /** "5 BLOCKS within one another": what the fifth one tells is told, goes out of all, and is run. */
+    private static void withinFiveBlocks() {
+        String[] kinds = {"if 1<2{", "if 2<1{}else{", "while a<1{"};
+        for (int kind = 0; kind < kinds.length; kind++) {
+            for (int last = 0; last < kinds.length; last++) {
+                String text = "array A 1;" + kinds[kind].repeat(4) + kinds[last] + "c=A[b];a=1;" + "}".repeat(5);
+                RowProver p = Bench.told(text);
+                int told = 0;
+                for (int v = 8; v < p.count(1); v++) {
+                    boolean meets = p.version(v, 1) >= 5;
+                    told += meets && p.version(v, 0) == 0 ? 1 : 0;
+                    if (meets) {
+                        Bench.same("the statement of " + v + " of " + text, p.version(v, 2) < 5, true);
+                        Bench.same("the number of " + v, p.was(0, v), p.version(v, 0) == 0 ? 1 : 0);
+                    }
+                }
+                Bench.same("versions of a that meet in " + text, told, 5);
+                Bench.same("statements of " + text, p.count(0), 7);
+                Bench.same("the check's statement", p.check(0, 0), 5);
+                Bench.same("it is shown", p.check(0, 3), 1);
+                Bench.same("asked", p.run(0, 4), 2);
+                Bench.same("ends", p.run(0, 0), 0);
+            }
+        }
     }
 
     /** "while: one of each that is told anew in its BLOCK, a to h (ROUND ..)": none, all. */
